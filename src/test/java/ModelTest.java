@@ -1,0 +1,202 @@
+/** Runs of up to 512 calls, always the same ones, answered by the program as by the plain model. */
+public final class ModelTest {
+    private static final int RUNS = 150;
+    private static final int CALLS = 512;
+    private static final String[] NAMES = {"samples", "seal", "take", "clip", "drop", "move", "split", "shape", "route",
+        "send", "effect", "fader", "point", "turn", "render", "sample", "meter", "bounce"};
+    /** How often each call comes, in the order of the names. */
+    private static final int[] WEIGHTS = {6, 2, 2, 8, 1, 4, 4, 6, 4, 6, 10, 3, 5, 4, 6, 3, 5, 1};
+
+    private long seed;
+
+    private ModelTest(long firstSeed) {
+        seed = firstSeed;
+    }
+
+    public static void main(String[] args) {
+        for (int run = 0; run < RUNS; run++) {
+            new ModelTest(run * 7919L + 1).run(run);
+        }
+        Check.end();
+    }
+
+    private void run(int run) {
+        StripMixer x = new StripMixer();
+        PlainModel model = new PlainModel();
+        int renders = 0;
+        for (int n = 0; n < CALLS && renders < 12; n++) {
+            int call = n < 60 ? early(n) : pick();
+            int[] a = arguments(call);
+            long four = call == 0 ? loud() : 0;
+            String due = answer(() -> askModel(model, call, a, four));
+            String got = answer(() -> askProgram(x, call, a, four));
+            String what = "run " + run + ", call " + n + ": " + NAMES[call] + java.util.Arrays.toString(a) + " " + four;
+            Check.same(what, got, due);
+            if (call == 14 || call == 17) {
+                renders++;
+                sameBlock(what, x, model);
+            }
+            sameDelays(what, x, model);
+        }
+    }
+
+    /** The first calls fill and seal some takes, so that there is something to hear. */
+    private int early(int n) {
+        return n < 48 ? 0 : n < 54 ? 1 : 3;
+    }
+
+    private static void sameBlock(String what, StripMixer x, PlainModel model) {
+        for (int s = 0; s < 8; s++) {
+            int strip = s;
+            for (int i = 0; i <= 64; i++) {
+                int place = i;
+                Check.same(what + ": sample(" + s + ", " + i + ")",
+                    answer(() -> x.sample(strip, place)), answer(() -> model.sample(strip, place)));
+            }
+            for (int meter = 0; meter < 3; meter++) {
+                Check.same(what + ": meter(" + s + ", " + meter + ")", x.meter(s, meter), model.meter(s, meter));
+            }
+        }
+    }
+
+    private static void sameDelays(String what, StripMixer x, PlainModel model) {
+        for (int s = 0; s < 8; s++) {
+            Check.same(what + ": meter(" + s + ", 3)", x.meter(s, 3), model.meter(s, 3));
+            Check.same(what + ": meter(" + s + ", 4)", x.meter(s, 4), model.meter(s, 4));
+        }
+    }
+
+    private interface Call {
+        long ask();
+    }
+
+    private static String answer(Call call) {
+        try {
+            return Long.toString(call.ask());
+        } catch (RuntimeException e) {
+            return e.getClass().getName();
+        }
+    }
+
+    /** The next number of a fixed row, 0 .. bound - 1. */
+    private int next(int bound) {
+        seed = seed * 6364136223846793005L + 1442695040888963407L;
+        return (int) ((seed >>> 33) % bound);
+    }
+
+    private int pick() {
+        int sum = 0;
+        for (int weight : WEIGHTS) {
+            sum += weight;
+        }
+        int left = next(sum);
+        int call = 0;
+        while (left >= WEIGHTS[call]) {
+            left -= WEIGHTS[call];
+            call++;
+        }
+        return call;
+    }
+
+    /** Mostly low .. high, now and then just or far outside. */
+    private int some(int low, int high) {
+        int odd = next(60);
+        if (odd == 0) {
+            int[] outside = {low - 1, high + 1, Integer.MIN_VALUE, Integer.MAX_VALUE};
+            return outside[next(4)];
+        }
+        return odd == 1 ? low : odd == 2 ? high : low + next(high - low + 1);
+    }
+
+    private long loud() {
+        long four = 0;
+        int size = 1 << next(16);
+        for (int j = 0; j < 4; j++) {
+            four = four << 16 | (next(2 * size + 1) - size & 0xffffL);
+        }
+        return four;
+    }
+
+    private int time() {
+        return next(3) > 0 ? some(0, 150) : some(0, 1023);
+    }
+
+    private int[] arguments(int call) {
+        switch (NAMES[call]) {
+            case "samples": return new int[] {some(0, 7), some(0, 60)};
+            case "seal": return new int[] {some(0, 7), some(1, 64)};
+            case "take": return new int[] {some(0, 7), some(-1, 64)};
+            case "clip": return new int[] {some(0, 3), time(), some(0, 7), some(0, 20), some(1, 44)};
+            case "drop": return new int[] {some(0, 15)};
+            case "move": return new int[] {some(0, 15), some(0, 3), time()};
+            case "split": return new int[] {some(0, 15), some(1, 30)};
+            case "shape": return new int[] {some(0, 15), some(0, 1024), some(0, 20), some(0, 20)};
+            case "route": return new int[] {some(0, 6), some(4, 7)};
+            case "send": return new int[] {some(0, 6), some(4, 6), next(3) == 0 ? 0 : some(0, 1024)};
+            case "effect": return effect();
+            case "fader": return new int[] {some(0, 7), some(0, 1024)};
+            case "point": return new int[] {some(0, 7), time(), some(0, 1024), next(2)};
+            case "turn": return new int[] {some(0, 7), next(8) == 0 ? some(0, 4) : 2 + 2 * next(2)};
+            case "render": return new int[] {time(), some(1, 64)};
+            case "sample": return new int[] {some(0, 7), some(0, 63)};
+            case "meter": return new int[] {some(0, 7), some(0, 4)};
+            default: return new int[] {some(0, 7), time(), some(1, 64)};
+        }
+    }
+
+    private int[] effect() {
+        int[] leastP = {0, 0, 0, 1, 1, 0, 0};
+        int[] mostP = {9, 1024, 256, 32, 100000, 100000, 100000};
+        int[] mostQ = {9, 9, 9, 255, 16, 64, 9};
+        int kind = some(0, 6);
+        int known = kind < 0 || kind > 6 ? 0 : kind;
+        int p = some(leastP[known], known < 4 || next(2) == 0 ? mostP[known] : 20000);
+        return new int[] {some(0, 7), some(0, 2), kind, p, some(0, mostQ[known])};
+    }
+
+    private static long askModel(PlainModel x, int call, int[] a, long four) {
+        switch (NAMES[call]) {
+            case "samples": return x.samples(a[0], a[1], four);
+            case "seal": return x.seal(a[0], a[1]);
+            case "take": return x.take(a[0], a[1]);
+            case "clip": return x.clip(a[0], a[1], a[2], a[3], a[4]);
+            case "drop": return x.drop(a[0]);
+            case "move": return x.move(a[0], a[1], a[2]);
+            case "split": return x.split(a[0], a[1]);
+            case "shape": return x.shape(a[0], a[1], a[2], a[3]);
+            case "route": return x.route(a[0], a[1]);
+            case "send": return x.send(a[0], a[1], a[2]);
+            case "effect": return x.effect(a[0], a[1], a[2], a[3], a[4]);
+            case "fader": return x.fader(a[0], a[1]);
+            case "point": return x.point(a[0], a[1], a[2], a[3] == 1);
+            case "turn": return x.turn(a[0], a[1]);
+            case "render": return x.render(a[0], a[1]);
+            case "sample": return x.sample(a[0], a[1]);
+            case "meter": return x.meter(a[0], a[1]);
+            default: return x.bounce(a[0], a[1], a[2]);
+        }
+    }
+
+    private static long askProgram(StripMixer x, int call, int[] a, long four) {
+        switch (NAMES[call]) {
+            case "samples": x.samples(a[0], a[1], four); return 0;
+            case "seal": x.seal(a[0], a[1]); return 0;
+            case "take": return x.take(a[0], a[1]);
+            case "clip": return x.clip(a[0], a[1], a[2], a[3], a[4]);
+            case "drop": x.drop(a[0]); return 0;
+            case "move": return x.move(a[0], a[1], a[2]) ? 1 : 0;
+            case "split": return x.split(a[0], a[1]);
+            case "shape": x.shape(a[0], a[1], a[2], a[3]); return 0;
+            case "route": return x.route(a[0], a[1]) ? 1 : 0;
+            case "send": return x.send(a[0], a[1], a[2]) ? 1 : 0;
+            case "effect": x.effect(a[0], a[1], a[2], a[3], a[4]); return 0;
+            case "fader": x.fader(a[0], a[1]); return 0;
+            case "point": return x.point(a[0], a[1], a[2], a[3] == 1) ? 1 : 0;
+            case "turn": return x.turn(a[0], a[1]);
+            case "render": x.render(a[0], a[1]); return 0;
+            case "sample": return x.sample(a[0], a[1]);
+            case "meter": return x.meter(a[0], a[1]);
+            default: return x.bounce(a[0], a[1], a[2]);
+        }
+    }
+}
