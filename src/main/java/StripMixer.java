@@ -290,11 +290,7 @@ public final class StripMixer {
     }
 
     private static int cut(int x) {
-        return bound(x, FAR);
-    }
-
-    private static int bound(int x, int far) {
-        return Math.max(-far, Math.min(far, x));
+        return Math.max(-FAR, Math.min(FAR, x));
     }
 
     /** Samples to cut clips from; the length is 0 while it is open. */
@@ -495,7 +491,7 @@ public final class StripMixer {
                 case GATE:
                     return gate(x);
                 case CLAMP:
-                    return bound(x, p);
+                    return Math.max(-p, Math.min(p, x));
                 default:
                     return x;
             }

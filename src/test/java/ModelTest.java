@@ -24,7 +24,7 @@ public final class ModelTest {
         StripMixer x = new StripMixer();
         PlainModel model = new PlainModel();
         int renders = 0;
-        for (int n = 0; n < CALLS && renders < 12; n++) {
+        for (int n = 0; n < CALLS && renders < 40; n++) {
             int call = n < 60 ? early(n) : pick();
             int[] a = arguments(call);
             long four = call == 0 ? loud() : 0;
@@ -36,7 +36,10 @@ public final class ModelTest {
                 renders++;
                 sameBlock(what, x, model);
             }
-            sameDelays(what, x, model);
+            // Seldom, so that a render often comes without a call of meter() before it.
+            if (next(20) == 0) {
+                sameDelays(what, x, model);
+            }
         }
     }
 
@@ -110,11 +113,16 @@ public final class ModelTest {
 
     private long loud() {
         long four = 0;
-        int size = 1 << next(16);
+        int size = 1 << (next(2) == 0 ? 15 : next(16));
         for (int j = 0; j < 4; j++) {
             four = four << 16 | (next(2 * size + 1) - size & 0xffffL);
         }
         return four;
+    }
+
+    private int level() {
+        int odd = next(4);
+        return odd == 0 ? 1024 : odd == 1 ? next(3) : some(0, 1024);
     }
 
     private int time() {
@@ -130,12 +138,12 @@ public final class ModelTest {
             case "drop": return new int[] {some(0, 15)};
             case "move": return new int[] {some(0, 15), some(0, 3), time()};
             case "split": return new int[] {some(0, 15), some(1, 30)};
-            case "shape": return new int[] {some(0, 15), some(0, 1024), some(0, 20), some(0, 20)};
+            case "shape": return new int[] {some(0, 15), level(), some(0, 20), some(0, 20)};
             case "route": return new int[] {some(0, 6), some(4, 7)};
-            case "send": return new int[] {some(0, 6), some(4, 6), next(3) == 0 ? 0 : some(0, 1024)};
+            case "send": return new int[] {some(0, 6), some(4, 6), level()};
             case "effect": return effect();
-            case "fader": return new int[] {some(0, 7), some(0, 1024)};
-            case "point": return new int[] {some(0, 7), time(), some(0, 1024), next(2)};
+            case "fader": return new int[] {some(0, 7), level()};
+            case "point": return new int[] {some(0, 7), time(), level(), next(2)};
             case "turn": return new int[] {some(0, 7), next(8) == 0 ? some(0, 4) : 2 + 2 * next(2)};
             case "render": return new int[] {time(), some(1, 64)};
             case "sample": return new int[] {some(0, 7), some(0, 63)};
@@ -148,9 +156,9 @@ public final class ModelTest {
         int[] leastP = {0, 0, 0, 1, 1, 0, 0};
         int[] mostP = {9, 1024, 256, 32, 100000, 100000, 100000};
         int[] mostQ = {9, 9, 9, 255, 16, 64, 9};
-        int kind = some(0, 6);
+        int kind = next(4) == 0 ? 1 : some(0, 6);
         int known = kind < 0 || kind > 6 ? 0 : kind;
-        int p = some(leastP[known], known < 4 || next(2) == 0 ? mostP[known] : 20000);
+        int p = known == 1 ? level() : some(leastP[known], known < 4 || next(2) == 0 ? mostP[known] : 20000);
         return new int[] {some(0, 7), some(0, 2), kind, p, some(0, mostQ[known])};
     }
 

@@ -319,12 +319,13 @@ final class PlainModel {
     }
 
     private long[] row(int strip, int end) {
+        boolean heard = isHeard(strip);
         long[] x = strip < 4 ? clipRow(strip, end) : mixRow(strip, end);
         for (int[] effect : effects[strip]) {
             x = through(effect[0], effect[1], effect[2], x);
         }
         for (int t = 0; t < end; t++) {
-            x[t] = isHeard(strip) ? cut(at(x[t], level(strip, t - t % 16))) : 0;
+            x[t] = heard ? cut(at(x[t], level(strip, t - t % 16))) : 0;
         }
         return x;
     }

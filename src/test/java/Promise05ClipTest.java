@@ -24,6 +24,9 @@ public final class Promise05ClipTest {
         Check.same("the least free number", x.clip(0, 0, 0, 0, 1), 0);
         Check.same("the next free number", x.clip(0, 1, 0, 0, 1), 1);
         Check.same("behind the last number", x.clip(0, 2, 0, 0, 1), 3);
+        Setup.seal(x, 7, 70, 71);
+        Check.same("of take 7", x.clip(2, 0, 7, 1, 1), 4);
+        Setup.renders("of take 7", x, 2, 0, 71, 0);
     }
 
     private static void overlaps() {
@@ -52,6 +55,8 @@ public final class Promise05ClipTest {
         Check.state("the 17th clip, of an open take", () -> x.clip(0, 500, 1, 0, 1));
         x.drop(9);
         Check.same("in place of 9", x.clip(0, 500, 0, 0, 1), 9);
+        x.drop(15);
+        Check.same("in place of 15", x.clip(0, 15, 0, 0, 1), 15);
     }
 
     private static void wrongArguments() {

@@ -14,6 +14,11 @@ public final class Promise06DropTest {
         for (int c : new int[] {-1, 2, 15, 16, Integer.MIN_VALUE, Integer.MAX_VALUE}) {
             Check.element("drop(" + c + ")", () -> x.drop(c));
         }
+        x.clip(1, 21, 0, 0, 1);
+        x.drop(0);
+        Check.same("all round a dropped one", x.clip(1, 20, 0, 0, 3), 0);
+        x.shape(0, 0, 1, 1);
+        x.drop(0);
         Check.same("its time is free", x.clip(0, 1, 0, 0, 2), 0);
         Setup.renders("a new one has level 256 and no fades", x, 0, 0, 0, 1, 2, 1, 2, 3);
         Check.end();

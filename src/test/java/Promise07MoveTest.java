@@ -16,6 +16,8 @@ public final class Promise07MoveTest {
         Check.same("to another track", x.move(0, 3, 10), true);
         Setup.renders("gone from track 0", x, 0, 10, 2, 3, 0, 0, 0);
         Setup.shows("on track 3", x, 3, 2, 4, 6, 8, 0);
+        Check.same("to the beginning", x.move(0, 3, 0), true);
+        Setup.renders("at the beginning", x, 3, 0, 2, 4, 6, 8, 0);
         Check.same("to the end", x.move(0, 3, 1020), true);
         Setup.renders("at the end", x, 3, 1019, 0, 2, 4, 6, 8);
 

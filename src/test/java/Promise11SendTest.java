@@ -18,6 +18,8 @@ public final class Promise11SendTest {
 
     private static void levels() {
         StripMixer x = Setup.tracks(1, 101, -101);
+        Check.same("send(0, 4, 1)", x.send(0, 4, 1), true);
+        Setup.renders("a 256th, rounded down", x, 4, 0, 0, -1);
         Check.same("send(0, 4, 128)", x.send(0, 4, 128), true);
         Setup.renders("half, rounded down", x, 4, 0, 50, -51);
         Setup.shows("straight and over the bus", x, 7, 151, -152);

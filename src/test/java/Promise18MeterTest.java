@@ -20,6 +20,7 @@ public final class Promise18MeterTest {
         shows("3, -7, 5", x, 0, 7, 83, 0);
         shows("nothing", x, 1, 0, 0, 0);
         shows("the master", x, 7, 7, 83, 0);
+        x.fader(0, 512);
         x.drop(0);
         shows("they stay", x, 0, 7, 83, 0);
         x.render(0, 3);
@@ -29,6 +30,14 @@ public final class Promise18MeterTest {
         y.fader(0, 512);
         y.render(0, 4);
         shows("32766, -32768, 32768, -32770", y, 0, 32770, 32766L * 32766 + 2L * 32768 * 32768 + 32770L * 32770, 2);
+        y.render(3, 1);
+        shows("-32770", y, 0, 32770, 32770L * 32770, 1);
+        y.render(0, 2);
+        y.render(2, 1);
+        shows("32768, and no more", y, 0, 32768, 1L << 30, 1);
+        y.render(0, 4);
+        y.render(1, 1);
+        shows("-32768, and no more", y, 0, 32768, 1L << 30, 0);
         StripMixer z = Setup.tracks(3, 32767, -32768);
         z.turn(1, 1);
         z.render(0, 2);

@@ -8,6 +8,7 @@ public final class Promise19BounceTest {
     }
 
     private static void plain() {
+        Check.same("take 0 is open", new StripMixer().bounce(7, 0, 1), 0);
         StripMixer x = Setup.tracks(3, 1, -2, 3, -4);
         x.seal(2, 9);
         x.samples(1, 0, Setup.four(50, 51, 52, 53));
