@@ -25,7 +25,7 @@ public final class ModelTest {
         PlainModel model = new PlainModel();
         int renders = 0;
         for (int n = 0; n < CALLS && renders < 40; n++) {
-            int call = n < 60 ? early(n) : pick();
+            int call = n < 70 ? early(n) : pick();
             int[] a = arguments(call);
             long four = call == 0 ? loud() : 0;
             String due = answer(() -> askModel(model, call, a, four));
@@ -121,18 +121,18 @@ public final class ModelTest {
     }
 
     private int level() {
-        int odd = next(4);
-        return odd == 0 ? 1024 : odd == 1 ? next(3) : some(0, 1024);
+        int odd = next(10);
+        return odd < 3 ? 1024 : odd == 3 ? next(3) : some(0, 1024);
     }
 
     private int time() {
-        return next(3) > 0 ? some(0, 150) : some(0, 1023);
+        return next(6) > 0 ? some(0, 150) : some(0, 1023);
     }
 
     private int[] arguments(int call) {
         switch (NAMES[call]) {
             case "samples": return new int[] {some(0, 7), some(0, 60)};
-            case "seal": return new int[] {some(0, 7), some(1, 64)};
+            case "seal": return new int[] {some(0, 7), next(4) == 0 ? some(1, 64) : some(40, 64)};
             case "take": return new int[] {some(0, 7), some(-1, 64)};
             case "clip": return new int[] {some(0, 3), time(), some(0, 7), some(0, 20), some(1, 44)};
             case "drop": return new int[] {some(0, 15)};
