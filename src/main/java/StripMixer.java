@@ -438,6 +438,7 @@ public final class StripMixer {
         private int p;
         private int q;
         private int place;
+        /** m of SMOOTH, n of GATE, M of LIMIT. */
         private int memory;
 
         static boolean allows(int kind, int p, int q) {
@@ -505,11 +506,17 @@ public final class StripMixer {
         }
 
         private int limit(int x) {
+            int gone = past[place];
             past[place] = x;
             place = place < q ? place + 1 : 0;
+            // The greatest size is looked for anew only when it may be the one that has gone.
+            if (Math.abs(x) >= memory) {
+                memory = Math.abs(x);
+            } else if (Math.abs(gone) == memory) {
+                memory = greatestPast();
+            }
             int z = past[place];
-            int most = greatestPast();
-            return most <= p ? z : (int) ((long) z * p / most);
+            return memory <= p ? z : (int) ((long) z * p / memory);
         }
 
         private int greatestPast() {
