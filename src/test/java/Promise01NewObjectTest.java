@@ -1,15 +1,16 @@
 public final class Promise01NewObjectTest {
     public static void main(String[] args) {
         Check.same("NONE", StripMixer.NONE, -1);
-        takesAreOpen(new StripMixer());
+        takesAreOpen(new StripMixer(), 0);
+        takesAreOpen(new StripMixer(), 4);
         nothingStands(new StripMixer());
         allIsRoutedToTheMaster();
         levelsAreFull();
         Check.end();
     }
 
-    private static void takesAreOpen(StripMixer x) {
-        for (int t = 0; t < 8; t++) {
+    private static void takesAreOpen(StripMixer x, int first) {
+        for (int t = first; t < first + 4; t++) {
             Check.same("take(" + t + ", -1)", x.take(t, -1), 0);
             for (int i = 0; i < 64; i++) {
                 Check.same("take(" + t + ", " + i + ")", x.take(t, i), 0);

@@ -57,4 +57,30 @@ final class Setup {
             Check.same(what + ": sample(" + strip + ", " + i + ")", x.sample(strip, i), due[i]);
         }
     }
+
+    /**
+     * What comes into bus 4 from time 0 on adds up to these numbers, before it is cut: of track 0 the 1024s, of track 1
+     * the rest. None may be further out than 16777216 by 1024 or more.
+     */
+    static StripMixer into4(int... sums) {
+        StripMixer x = new StripMixer();
+        int[] rough = new int[sums.length];
+        int[] fine = new int[sums.length];
+        for (int i = 0; i < sums.length; i++) {
+            rough[i] = sums[i] / 1024;
+            fine[i] = sums[i] % 1024;
+        }
+        seal(x, 0, rough);
+        seal(x, 1, fine);
+        for (int track = 0; track < 2; track++) {
+            x.clip(track, 0, track, 0, sums.length);
+            x.route(track, 4);
+        }
+        x.shape(0, 1024, 0, 0);
+        for (int slot = 0; slot < 3; slot++) {
+            x.effect(0, slot, 1, 1024, 0);
+        }
+        x.fader(0, 1024);
+        return x;
+    }
 }
