@@ -50,6 +50,14 @@ public final class Edge05ClipTest {
         Refused.BUSY.none("clip", 3, 1004, 0, 0, 20);
         Refused.BUSY.none("clip", 1, 60, 0, 0, 1);
         Refused.BUSY.none("clip", 1, 59, 0, 0, 3);
+        Refused lastClip = new Refused("clip 15 and no clip 1", () -> {
+            StripMixer x = Busy.fullOfClips();
+            x.drop(1);
+            return x;
+        });
+        lastClip.none("clip", 0, 279, 0, 0, 2);
+        lastClip.none("clip", 0, 280, 0, 0, 1);
+        lastClip.none("clip", 0, 284, 0, 0, 1);
         StripMixer x = Busy.desk();
         Ask.due(x, 3, "clip", 0, 38, 0, 0, 2);
         Ask.due(x, 8, "clip", 0, 50, 0, 0, 2);

@@ -34,6 +34,12 @@ public final class Edge06DropTest {
         Setup.renders("gone", x, 0, 0, 0, 0, 0, 0);
         Ask.due(x, 0, "clip", 0, 0, 0, 0, 3);
         Setup.renders("a new one has the level 256 and no fades", x, 0, 0, 5, 6, 7, 0);
+        Ask.due(x, 1, "clip", 1, 21, 0, 0, 1);
+        Ask.done(x, "drop", 1);
+        Ask.due(x, 1, "move", 0, 1, 20);
+        Ask.done(x, "drop", 0);
+        Ask.due(x, 0, "clip", 1, 19, 0, 0, 3);
+        Setup.renders("all round dropped ones", x, 1, 18, 0, 5, 6, 7, 0);
     }
 
     /** "NoSuchElementException: there is none such" */

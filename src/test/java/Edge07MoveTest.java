@@ -44,6 +44,12 @@ public final class Edge07MoveTest {
         Refused.BUSY.no("move", 7, 3, 1023);
         Refused.BUSY.no("move", 0, 3, 1004);
         Refused.BUSY.no("move", 2, 1, 49);
+        Refused.FULL_OF_CLIPS.no("move", 7, 0, 280);
+        Refused.FULL_OF_CLIPS.no("move", 7, 0, 284);
+        Refused.FULL_OF_CLIPS.no("move", 15, 3, 0);
+        StripMixer full = Busy.fullOfClips();
+        Ask.due(full, 1, "move", 7, 0, 279);
+        Ask.due(full, 1, "move", 7, 0, 285);
         StripMixer x = Busy.desk();
         Ask.due(x, 1, "move", 0, 0, 20);
         Ask.due(x, 1, "move", 0, 0, 50);

@@ -2,6 +2,7 @@
 public final class Edge08SplitTest {
     public static void main(String[] args) {
         firstAndLastPlace();
+        bothItsLevel();
         sixteen();
         in();
         out();
@@ -28,6 +29,17 @@ public final class Edge08SplitTest {
         Ask.due(z, 2, "split", 0, 62);
         z.drop(1);
         Setup.renders("the 63rd is the last", z, 0, 61, 4, 4, 0, 0);
+    }
+
+    /** "both its level": the least and the greatest */
+    private static void bothItsLevel() {
+        StripMixer x = Setup.tracks(1, 5, -6, 7);
+        x.shape(0, 1024, 0, 0);
+        Ask.due(x, 1, "split", 0, 1);
+        Setup.renders("level 1024", x, 0, 0, 20, -24, 28, 0);
+        x.shape(1, 0, 0, 0);
+        Ask.due(x, 2, "split", 1, 1);
+        Setup.renders("level 0", x, 0, 0, 20, 0, 0, 0);
     }
 
     /** "NONE when there are 16" */

@@ -174,6 +174,12 @@ public final class Edge14PointTest {
         Ask.due(x, 1, "point", 0, 64, 903, 0);
         steps("eight", x, 900, 10, 20, 902, 903, 50, 60, 60);
         Ask.due(x, 8, "turn", 0, 0);
+        Ask.due(x, 1, "point", 0, 0, 100, 0);
+        Ask.due(x, 1, "point", 0, 32, 300, 0);
+        Ask.due(x, 1, "point", 0, 0, 100, 1);
+        steps("joined now", x, 100, 200, 300);
+        Ask.due(x, 1, "point", 0, 0, 100, 0);
+        steps("not joined any more", x, 100, 100, 300);
     }
 
     /** "false when there are eight others" */

@@ -55,20 +55,27 @@ public final class Edge16RenderTest {
     private static void beforeTime0() {
         int[][] effects = {{2, 128, 0}, {3, 1, 255}, {3, 32, 255}, {4, 10, 16}, {5, 100, 64}};
         for (int[] effect : effects) {
-            StripMixer x = Setup.tracks(1, 200, 50, 50, 50);
-            x.effect(0, 0, effect[0], effect[1], effect[2]);
-            x.render(0, 40);
-            int[] first = new int[40];
-            for (int i = 0; i < 40; i++) {
-                first[i] = x.sample(0, i);
+            for (int slot = 0; slot < 3; slot++) {
+                beforeTime0(0, slot, effect);
+                beforeTime0(7, slot, effect);
             }
-            x.render(960, 64);
-            Setup.renders("again from 0", x, 0, 0, first);
-            x.render(1, 1);
-            Setup.shows("a block within", x, 0, first[1]);
-            x.render(39, 1);
-            Setup.shows("a block within", x, 0, first[39]);
         }
+    }
+
+    private static void beforeTime0(int strip, int slot, int[] effect) {
+        StripMixer x = Setup.tracks(1, 200, 50, 50, -1);
+        x.effect(strip, slot, effect[0], effect[1], effect[2]);
+        x.render(0, 40);
+        int[] first = new int[40];
+        for (int i = 0; i < 40; i++) {
+            first[i] = x.sample(strip, i);
+        }
+        x.render(960, 64);
+        Setup.renders("again from 0", x, strip, 0, first);
+        x.render(0, 2);
+        Setup.renders("and from 0", x, strip, 0, first);
+        Setup.renders("a block within", x, strip, 1, first[1]);
+        Setup.renders("a block within", x, strip, 39, first[39]);
     }
 
     /** "IllegalArgumentException: from is below 0" */

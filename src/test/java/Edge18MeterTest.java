@@ -73,6 +73,13 @@ public final class Edge18MeterTest {
         meters("a silent block", x, 0, 0, 0, 0);
         x.bounce(0, 3, 2);
         meters("a bounced block", x, 0, 1000, 1000009, 0);
+        x.fader(0, 1024);
+        x.shape(0, 1024, 0, 0);
+        x.effect(0, 0, 1, 1024, 0);
+        x.render(0, 5);
+        meters("out of range at both ends", x, 0, 64000, 4096L * 2000014, 2);
+        x.render(1, 3);
+        meters("not out of range between", x, 0, 192, 4096 * 14, 0);
     }
 
     /** 64 samples as far out as can be: the sum of squares is 2 to the 54th. */

@@ -68,6 +68,8 @@ public final class EdgeHeardTest {
         heard("0 and 3 are solo", x, "10011101", 2);
         x.turn(6, 3);
         heard("and 6", x, "10111111", 3);
+        x.turn(7, 3);
+        heard("and 7", x, "11111111", 4);
     }
 
     /** At once, over one, over two. */
@@ -76,6 +78,24 @@ public final class EdgeHeardTest {
         x.route(5, 6);
         x.turn(6, 3);
         heard("all but 3 reach 6", x, "11101111", 3);
+        int[][] rows = {{4, 5, 6}, {4, 6, 5}, {5, 4, 6}, {5, 6, 4}, {6, 4, 5}, {6, 5, 4}};
+        for (int[] row : rows) {
+            StripMixer y = Setup.tracks(1, 1);
+            y.route(0, row[0]);
+            y.route(row[0], row[1]);
+            y.route(row[1], row[2]);
+            for (int far : new int[] {row[0], row[1], row[2], 7}) {
+                y.turn(far, 3);
+                Ask.due(y, 1, "meter", 0, 4);
+                Ask.due(y, 1, "meter", row[0], 4);
+                Ask.due(y, far == 7 ? 1 : 0, "meter", 1, 4);
+                y.turn(far, 4);
+            }
+            y.turn(0, 3);
+            for (int far : new int[] {row[0], row[1], row[2], 7}) {
+                Ask.due(y, 1, "meter", far, 4);
+            }
+        }
     }
 
     private static void oneReachesIt() {
