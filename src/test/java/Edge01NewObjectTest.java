@@ -58,6 +58,7 @@ public final class Edge01NewObjectTest {
         }
     }
 
+    /** "at first to the master", "each with a level, at first 0" */
     private static void sendsAre0AndRoutesToTheMaster() {
         for (int strip = 0; strip < 7; strip++) {
             StripMixer x = new StripMixer();
@@ -68,6 +69,7 @@ public final class Edge01NewObjectTest {
         }
     }
 
+    /** "A new object": what another one was told, it does not know. */
     private static void objectsAreApart() {
         StripMixer x = new StripMixer();
         StripMixer y = Busy.desk();

@@ -96,6 +96,7 @@ public final class Edge02SamplesTest {
         bounced.state("samples", 2, 60, 9);
     }
 
+    /** "Methods throw what their comments name, the one named first when several would do" */
     private static void indexIsNamedFirst() {
         Refused.BUSY.index("samples", 0, -1, 9);
         Refused.BUSY.index("samples", 0, 61, 9);

@@ -62,6 +62,7 @@ public final class Edge03SealTest {
         bounced.state("seal", 2, 9);
     }
 
+    /** "Methods throw what their comments name, the one named first when several would do" */
     private static void theOneNamedFirst() {
         for (int length : Edges.outside(1, 64)) {
             Refused.BUSY.index("seal", -1, length);

@@ -22,6 +22,7 @@ public final class Edge04TakeTest {
         }
     }
 
+    /** "its length for i = -1", and samples 0 .. length - 1 */
     private static void sealed() {
         for (int length : new int[] {1, 5, 64}) {
             StripMixer x = new StripMixer();

@@ -19,6 +19,7 @@ public final class Edge05ClipTest {
         Check.end();
     }
 
+    /** "A new clip: its number": with the first and the last of each that is allowed */
     private static void firstAndLastOfEach() {
         StripMixer x = new StripMixer();
         Setup.seal(x, 0, 1, 2, 3);
@@ -167,6 +168,7 @@ public final class Edge05ClipTest {
         Ask.due(x, 10, "clip", 2, 660, 7, 0, 1);
     }
 
+    /** "Methods throw what their comments name, the one named first when several would do", and before NONE */
     private static void theOneNamedFirst() {
         Refused.BUSY.argument("clip", 4, 0, 2, 0, 1);
         Refused.BUSY.argument("clip", 2, -1, 2, 0, 1);

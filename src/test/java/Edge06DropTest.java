@@ -8,6 +8,7 @@ public final class Edge06DropTest {
         Check.end();
     }
 
+    /** "A clip goes away": the first and the last number */
     private static void firstAndLast() {
         StripMixer x = Busy.fullOfClips();
         for (int c : new int[] {0, 15}) {
@@ -27,6 +28,7 @@ public final class Edge06DropTest {
         }
     }
 
+    /** "A clip goes away", with all that it had. */
     private static void itsTimeIsFree() {
         StripMixer x = Setup.tracks(1, 5, 6, 7);
         x.shape(0, 1024, 1, 2);

@@ -15,6 +15,7 @@ public final class Edge07MoveTest {
         Check.end();
     }
 
+    /** "A clip comes to a track and a time: true": the first and the last of each */
     private static void firstAndLastPlace() {
         StripMixer x = Setup.tracks(2, 5, 6, 7);
         Ask.due(x, 1, "move", 0, 0, 0);
@@ -104,6 +105,7 @@ public final class Edge07MoveTest {
         Ask.due(Busy.desk(), 1, "move", 7, 2, 1023);
     }
 
+    /** "Methods throw what their comments name, the one named first when several would do", and before false */
     private static void theOneNamedFirst() {
         Refused.BUSY.element("move", 3, 4, 0);
         Refused.BUSY.element("move", 16, 0, -1);

@@ -129,6 +129,7 @@ public final class Edge08SplitTest {
         }
     }
 
+    /** "Methods throw what their comments name, the one named first when several would do", and before NONE */
     private static void theOneNamedFirst() {
         Refused.BUSY.element("split", 3, 0);
         Refused.BUSY.element("split", 16, Edges.MAX);

@@ -131,6 +131,7 @@ public final class Edge09ShapeTest {
         Ask.done(split, "shape", 1, 256, 1, 0);
     }
 
+    /** "Methods throw what their comments name, the one named first when several would do" */
     private static void theOneNamedFirst() {
         Refused.BUSY.element("shape", 3, -1, 0, 0);
         Refused.BUSY.element("shape", 16, 256, -1, 0);

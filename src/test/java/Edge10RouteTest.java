@@ -12,6 +12,7 @@ public final class Edge10RouteTest {
         Check.end();
     }
 
+    /** "A strip is routed: true": the first and the last of each */
     private static void firstAndLastOfEach() {
         for (int track : new int[] {0, 3}) {
             for (int bus : new int[] {4, 6}) {
@@ -42,7 +43,7 @@ public final class Edge10RouteTest {
         }
     }
 
-    /** Over one other bus. */
+    /** "false when it would reach itself then": over one other bus */
     private static void ringOfTwo() {
         Refused.BUSY.no("route", 5, 4);
         for (int a = 4; a < 7; a++) {
@@ -56,7 +57,7 @@ public final class Edge10RouteTest {
         }
     }
 
-    /** Over two other buses. */
+    /** "false when it would reach itself then": over two other buses */
     private static void ringOfThree() {
         int[][] rows = {{4, 5, 6}, {4, 6, 5}, {5, 4, 6}, {5, 6, 4}, {6, 4, 5}, {6, 5, 4}};
         for (int[] row : rows) {

@@ -67,6 +67,7 @@ public final class Edge11SendTest {
         }
     }
 
+    /** "false when it would reach itself then": over one other bus */
     private static void ringOfTwo() {
         for (int level : new int[] {1, 256, 1024}) {
             Refused.BUSY.no("send", 5, 4, level);
@@ -86,6 +87,7 @@ public final class Edge11SendTest {
         }
     }
 
+    /** "false when it would reach itself then": over two other buses */
     private static void ringOfThree() {
         int[][] rows = {{4, 5, 6}, {4, 6, 5}, {5, 4, 6}, {5, 6, 4}, {6, 4, 5}, {6, 5, 4}};
         for (int[] row : rows) {

@@ -19,6 +19,7 @@ public final class Edge12EffectTest {
         Check.end();
     }
 
+    /** "An effect comes into a slot": the first and the last strip and slot */
     private static void firstAndLastPlace() {
         for (int slot : new int[] {0, 1, 2}) {
             StripMixer x = Setup.tracks(1, 5, -6);
@@ -90,29 +91,35 @@ public final class Edge12EffectTest {
         }
     }
 
+    /** "GAIN, a level p" */
     private static void gain() {
         p(1, 0, 1024, 0);
     }
 
+    /** "SMOOTH, p 0 .. 256" */
     private static void smooth() {
         p(2, 0, 256, 0);
     }
 
+    /** "ECHO, p 1 .. 32, q 0 .. 255" */
     private static void echo() {
         p(3, 1, 32, 0, 255);
         q(3, 0, 255, 1, 32);
     }
 
+    /** "LIMIT, p 1 .. 100000, q 0 .. 16" */
     private static void limit() {
         p(4, 1, 100000, 0, 16);
         q(4, 0, 16, 1, 100000);
     }
 
+    /** "GATE, p 0 .. 100000, q 0 .. 64" */
     private static void gate() {
         p(5, 0, 100000, 0, 64);
         q(5, 0, 64, 0, 100000);
     }
 
+    /** "CLAMP, p 0 .. 100000" */
     private static void clamp() {
         p(6, 0, 100000, 0);
     }

@@ -76,6 +76,7 @@ public final class Edge14PointTest {
         Setup.shows("both sides of a step's edge", x, 0, 10, 40);
     }
 
+    /** "TIME is counted in samples, 0 .. 1023": the last step and the last time */
     private static void lastStep() {
         StripMixer x = new StripMixer();
         Setup.sealFlat(x, 0, 256);
@@ -100,7 +101,7 @@ public final class Edge14PointTest {
         steps("and its last one", x, 50, 100, 100, 100);
     }
 
-    /** "divided by ..., rounded down", rising and falling */
+    /** "divided by (the next one's time less its time), rounded down", rising and falling */
     private static void joined() {
         StripMixer x = flat();
         x.point(0, 0, 0, true);
@@ -124,6 +125,7 @@ public final class Edge14PointTest {
         steps("over all time, falling", x, 1024, 1007, 991, 975, 959);
     }
 
+    /** "its level", if it is not joined */
     private static void notJoined() {
         StripMixer x = flat();
         x.point(0, 0, 0, false);
@@ -133,7 +135,7 @@ public final class Edge14PointTest {
         steps("held", x, 0, 0, 0, 100, 500, 0, 0);
     }
 
-    /** Points one sample apart. */
+    /** "divided by (the next one's time less its time)": points one sample apart */
     private static void neighbours() {
         StripMixer x = flat();
         x.point(0, 16, 100, true);

@@ -13,6 +13,7 @@ public final class Edge16RenderTest {
         Check.end();
     }
 
+    /** "A block of n samples from a time on is rendered": the shortest and the longest, at both ends of time */
     private static void shortestAndLongest() {
         int[][] blocks = {{0, 1}, {0, 64}, {1023, 1}, {960, 64}, {1022, 2}, {961, 63}, {1, 64}, {500, 1}};
         for (int[] block : blocks) {
@@ -27,7 +28,7 @@ public final class Edge16RenderTest {
         }
     }
 
-    /** A clip in each 64 samples of time, and blocks over all of it, from the first sample to the last. */
+    /** "TIME is counted in samples, 0 .. 1023": a clip in each 64 of them, and blocks from the first to the last */
     private static void allOfTime() {
         StripMixer x = new StripMixer();
         int[] row = new int[64];

@@ -8,6 +8,7 @@ public final class Edge17SampleTest {
         Check.end();
     }
 
+    /** "Sample i of the last block, of a strip": the first and the last of each */
     private static void firstAndLast() {
         StripMixer x = Setup.tracks(15, 1, 2, 3);
         x.render(0, 1);

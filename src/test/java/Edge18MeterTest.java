@@ -82,7 +82,7 @@ public final class Edge18MeterTest {
         meters("not out of range between", x, 0, 192, 4096 * 14, 0);
     }
 
-    /** 64 samples as far out as can be: the sum of squares is 2 to the 54th. */
+    /** "the sum of the squares": of 64 samples as far out as can be it is 2 to the 54th */
     private static void most() {
         for (int sample : new int[] {32767, -32768}) {
             StripMixer x = Setup.flat(sample, 1);

@@ -17,6 +17,7 @@ public final class Edge19BounceTest {
         Check.end();
     }
 
+    /** "A block is rendered, and what goes out of a strip in it ... becomes a take": the shortest and the longest */
     private static void shortestAndLongest() {
         int[][] blocks = {{0, 1}, {0, 64}, {1023, 1}, {960, 64}, {1022, 2}};
         for (int[] block : blocks) {
@@ -121,7 +122,7 @@ public final class Edge19BounceTest {
         }
     }
 
-    /** n is not 1 .. 64 */
+    /** "or as for render()": n is not 1 .. 64 */
     private static void count() {
         for (int n : Edges.outside(1, 64)) {
             Refused.NEW.argument("bounce", 0, 0, n);
@@ -130,7 +131,7 @@ public final class Edge19BounceTest {
         }
     }
 
-    /** or it would end behind time 1024 */
+    /** "or as for render()": it would end behind time 1024 */
     private static void endBehindTime() {
         int[][] blocks = {{1024, 1}, {1023, 2}, {961, 64}, {MAX, 1}, {MAX, 64}, {MAX - 63, 64}, {MAX, MAX}, {MIN, MAX},
             {1024, 0}};
@@ -140,6 +141,7 @@ public final class Edge19BounceTest {
         }
     }
 
+    /** "Methods throw what their comments name": also when there is no open take */
     private static void throwsBeforeNone() {
         for (int strip : Edges.outside(0, 7)) {
             Refused.FULL_OF_TAKES.argument("bounce", strip, 0, 1);

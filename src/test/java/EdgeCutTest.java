@@ -33,6 +33,7 @@ public final class EdgeCutTest {
             -16711680, -16711680, -16711680, -16711680);
     }
 
+    /** "they are added up and cut": not one after the other */
     private static void cutOnceAllAreAdded() {
         for (int sign : new int[] {1, -1}) {
             StripMixer x = farTracks(sign, sign, -sign, 0);
@@ -58,7 +59,7 @@ public final class EdgeCutTest {
         }
     }
 
-    /** All strips but the last one are routed to it and send to it with the greatest level. */
+    /** "(of one that does both, both)": all strips but the last, with the greatest level */
     private static void widestSum() {
         for (int sign : new int[] {1, -1}) {
             StripMixer x = farTracks(sign, sign, sign, sign);
@@ -120,7 +121,7 @@ public final class EdgeCutTest {
             -4194303, -4194304, -4194304, -4194304);
     }
 
-    /** What an ECHO comes back to is what went, after it was cut. */
+    /** "what y was p samples before": after it was cut */
     private static void echo() {
         StripMixer x = Setup.into4(FAR, 8388607, 8388609, 8388610, 0, 0);
         x.effect(4, 0, 3, 1, 128);
@@ -134,7 +135,7 @@ public final class EdgeCutTest {
         Setup.renders("ECHO, then less", z, 4, 0, 8388608, 8388608, 8388608, 8355840, 8323200);
     }
 
-    /** (x - m) may be 33554432 far. */
+    /** "(x - m) at p": 33554432 is as far as it may be */
     private static void smooth() {
         StripMixer x = Setup.into4(FAR, -FAR, FAR, -FAR, -FAR);
         x.effect(4, 0, 2, 256, 0);
@@ -145,6 +146,7 @@ public final class EdgeCutTest {
         Setup.renders("SMOOTH 128", x, 4, 0, 8388608, -4194304, 6291456, -5242880, -11010048);
     }
 
+    /** "z times p, divided by M": as far out as can be */
     private static void limit() {
         StripMixer x = Setup.into4(FAR, -FAR, FAR - 1, 100001, -100001, 100000, -100000);
         x.effect(4, 0, 4, 100000, 0);
@@ -155,12 +157,14 @@ public final class EdgeCutTest {
         Setup.renders("LIMIT", x, 4, 0, 1, -1, 1, 1, -1, 1, -1);
     }
 
+    /** "the size of x is p or more": as far out as can be */
     private static void gate() {
         StripMixer x = Setup.into4(FAR, -FAR, 99999, 100000, -100000, -99999);
         x.effect(4, 0, 5, 100000, 0);
         Setup.renders("GATE", x, 4, 0, FAR, -FAR, 0, 100000, -100000, 0);
     }
 
+    /** "-p if x is less, p if it is more": as far out as can be */
     private static void clamp() {
         StripMixer x = Setup.into4(FAR, -FAR, 99999, 100000, 100001, -99999, -100000, -100001);
         x.effect(4, 0, 6, 100000, 0);

@@ -46,7 +46,7 @@ public final class EdgeDelayTest {
         Setup.renders("two as great", x, 7, 0, 0, 0, 0, 15, -18, 21, 0);
     }
 
-    /** A way over three buses with 48 each, and one straight into the last of them. */
+    /** "come later by the difference": a way over three buses with 48 each, and one straight into the last of them */
     private static void greatestDifference() {
         StripMixer x = Setup.tracks(3, 5, -6, 7);
         x.route(0, 6);
@@ -115,6 +115,7 @@ public final class EdgeDelayTest {
         Ask.due(x, 3, "meter", 4, 3);
     }
 
+    /** "the greatest delay of the strips that feed it": and of no others */
     private static void onlyTheFeedersCount() {
         StripMixer x = Setup.tracks(3, 5, -6, 7);
         x.route(1, 4);
@@ -127,6 +128,7 @@ public final class EdgeDelayTest {
         Setup.renders("the master waits for a silent bus", x, 7, 10, 0, 10, -12, 14, 0);
     }
 
+    /** "come later by the difference": what would come behind the end of time is lost */
     private static void behindTheEndOfTime() {
         StripMixer x = Setup.tracks(3, 5, -6, 7);
         delay(x, 0, 2);

@@ -113,6 +113,7 @@ public final class EdgeEffectsTest {
         }
     }
 
+    /** "the greatest size of the last q + 1 x": and of no older one */
     private static void limitForgetsWhatIsOlder() {
         for (int q = 0; q <= 16; q++) {
             for (int loud : new int[] {200, -200}) {
@@ -172,6 +173,7 @@ public final class EdgeEffectsTest {
         }
     }
 
+    /** "when the size of x is p or more, a memory n becomes q + 1": whatever it was */
     private static void gateBeginsAnew() {
         gives("at once", with(GATE, 60, 2, 60, 60, 9, 9, 9), 60, 60, 9, 9, 0);
         gives("in the last held one", with(GATE, 60, 2, 60, 9, 60, 9, 9, 9), 60, 9, 60, 9, 9, 0);
@@ -179,6 +181,7 @@ public final class EdgeEffectsTest {
         gives("closed", with(GATE, 60, 1, 60, 9, 9, -60, 9, 9), 60, 9, 0, -60, 9, 0);
     }
 
+    /** "p 0 .. 100000": with 0 it is always open */
     private static void gateOfP0() {
         gives("GATE 0, 0", with(GATE, 0, 0, 0, 1, -1, 0, 32767, -32768), 0, 1, -1, 0, 32767, -32768);
         gives("GATE 0, 64", with(GATE, 0, 64, 0, 1, -1, 0, 32767, -32768), 0, 1, -1, 0, 32767, -32768);

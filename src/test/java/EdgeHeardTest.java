@@ -40,6 +40,7 @@ public final class EdgeHeardTest {
         Check.same(what + ": sample(7, 0)", x.sample(7, 0), master);
     }
 
+    /** "if it is not MUTED, and no strip is SOLO" */
     private static void noneSolo() {
         heard("none", desk(), "11111111", 4);
         int[] masters = {3, 3, 3, 3, 2, 2, 3, 0};
@@ -52,6 +53,7 @@ public final class EdgeHeardTest {
         }
     }
 
+    /** "or it is" */
     private static void itIsSolo() {
         String[] due = {"10001101", "01001101", "00100011", "00010001", "11001101", "11001101", "00100011", "11111111"};
         int[] masters = {1, 1, 1, 1, 2, 2, 1, 4};
@@ -72,7 +74,7 @@ public final class EdgeHeardTest {
         heard("and 7", x, "11111111", 4);
     }
 
-    /** At once, over one, over two. */
+    /** "or it reaches one that is": at once, over one, over two */
     private static void itReachesOne() {
         StripMixer x = desk();
         x.route(5, 6);
@@ -98,6 +100,7 @@ public final class EdgeHeardTest {
         }
     }
 
+    /** "or one that is reaches it" */
     private static void oneReachesIt() {
         StripMixer x = desk();
         x.route(5, 6);
@@ -121,6 +124,7 @@ public final class EdgeHeardTest {
         heard("nobody sends any more", x, "00100011", 1);
     }
 
+    /** "if it is not MUTED": also when it is solo */
     private static void mutedAndSolo() {
         StripMixer x = desk();
         x.turn(0, 1);
@@ -136,6 +140,7 @@ public final class EdgeHeardTest {
         heard("the bus between is muted", x, "10000101", 0);
     }
 
+    /** All at once. */
     private static void allMutedAllSolo() {
         StripMixer x = desk();
         for (int strip = 0; strip < 8; strip++) {
